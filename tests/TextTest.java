@@ -134,6 +134,11 @@ public final class TextTest {
         Check.due("no blanks needed", Check.tell(x, "realm towns3hours\n5;seal007;"), 2);
         Check.due("leading zeros", x.count(8), 7);
         Check.refused("realmtowns 3 hours 5;", 1, 0);
+        Check.refused("realmz towns 3 hours 5;", 1, 0);
+        Check.refused("nealm towns 3 hours 5;", 1, 0);
+        Check.refused("realn towns 3 hours 5;", 1, 0);
+        Check.refused("real towns 3 hours 5;", 1, 0);
+        Check.refusedAtEnd(HEAD + " zeal", 1);
         Check.refused("realm towns 3 hours 5\t;", 1, 21);
         Check.refused("realm towns 3 hourS 5;", 1, 14);
         Check.refused("Realm", 1, 0);
