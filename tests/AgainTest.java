@@ -9,6 +9,7 @@ public final class AgainTest {
         earlierRealm();
         earlierOrders();
         earlierSeats();
+        earlierWays();
         thoughts();
         firstCalls();
         Check.finish();
@@ -44,6 +45,30 @@ public final class AgainTest {
         Check.due("undone", x.undone(1, 19), 1);
         Check.due("a fault", Check.tell(x, LAND + SAYS.replace("says 5", "says 9") + SAYS.replace("5", "99")), -4);
         Check.due("what was read ahead of it is not told", x.order(0, 2), 5);
+    }
+
+    /** A way of fewer towns behind one of many: nothing of the longer one counts. */
+    private static void earlierWays() {
+        String land = "realm towns 5 hours 60;road 0 to 1 hours 2;road 1 to 2 hours 2;road 2 to 3 hours 2;"
+            + "road 3 to 4 hours 2;rider pace 1 rests 0;";
+        String there = "order rider 0 on 0 says 5 from 0 to 4 at ";
+        String back = "order rider 0 on 0 says 5 from 4 to 0 at ";
+        SlowOrder x = Check.told(land + there + "3;" + back + "2;");
+        Check.due("they cross", x.meets(0, 1), 1);
+        Check.tell(x, land + there.replace("to 4", "to 1") + "9;" + back.replace("to 0", "to 3") + "8;");
+        int[] where = {-1, 11, 11, 1, -1, -1, -1};
+        for (int hour = 8; hour < 15; hour++) {
+            Check.due("rider(0, " + hour + ")", x.rider(0, hour), where[hour - 8]);
+        }
+        Check.due("no third town", x.passes(0, 2), -1);
+        Check.due("they do not cross", x.meets(0, 1), 0);
+        Check.due("nor the other way round", x.meets(1, 0), 0);
+        for (int town = 2; town < 5; town++) {
+            for (int hour = 0; hour < 12; hour++) {
+                Check.row(x, 0, 0, 0, town, hour);
+                Check.due("nor does he come to " + town, x.forged(0), 1);
+            }
+        }
     }
 
     private static void earlierSeats() {

@@ -1,16 +1,35 @@
+import java.util.TreeSet;
+
 /** Counts answers that are not as due, and feeds texts. */
 final class Check {
     private static int wrong = 0;
     private static int asked = 0;
+    private static String belongs = "";
+    private static final TreeSet<Integer> PROMISES = new TreeSet<>();
 
     private Check() {
+    }
+
+    /** What is asked from here on belongs to this promise, and to this sentence of it. */
+    static void promise(int n, String sentence) {
+        PROMISES.add(n);
+        belongs = "promise " + n + " '" + sentence + "': ";
+    }
+
+    /** Likewise to one of the Terms. */
+    static void term(String n, String sentence) {
+        belongs = "term " + n + " '" + sentence + "': ";
+    }
+
+    static boolean isPromiseAsked(int n) {
+        return PROMISES.contains(n);
     }
 
     static void due(String call, long got, long want) {
         asked++;
         if (got != want) {
             wrong++;
-            System.out.println(call + " answered " + got + ", due is " + want);
+            System.out.println(belongs + call + " answered " + got + ", due is " + want);
         }
     }
 
@@ -69,6 +88,17 @@ final class Check {
     /** The text's last word or number is refused by this fault. */
     static void refusedAtEnd(String text, int fault) {
         refused(text, fault, text.lastIndexOf(' ') + 1);
+    }
+
+    /** Each of the numbers may stand behind the text (with the rest behind it), and the two outside may not. */
+    static void bounds(String text, int least, int most, String rest) {
+        SlowOrder x = new SlowOrder();
+        so(text + least + rest, tell(x, text + least + rest) > 0);
+        so(text + most + rest, tell(x, text + most + rest) > 0);
+        refused(text + (most + 1) + rest, 2, text.length());
+        if (least > 0) {
+            refused(text + (least - 1) + rest, 2, text.length());
+        }
     }
 
     static void row(SlowOrder x, int slot, int width, long... numbers) {

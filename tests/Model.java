@@ -1,7 +1,10 @@
 import java.nio.charset.StandardCharsets;
 import java.util.ArrayList;
 import java.util.Arrays;
+import java.util.HashMap;
 import java.util.List;
+import java.util.Map;
+import java.util.Optional;
 import java.util.function.IntPredicate;
 import java.util.regex.Matcher;
 import java.util.regex.Pattern;
@@ -45,6 +48,8 @@ public final class Model {
         List<int[]> riders = new ArrayList<>();
         List<Order> orders = new ArrayList<>();
         Journey[] journeys;
+        // copies have the same roads
+        Map<Integer, Optional<List<Integer>>> ways = new HashMap<>();
 
         Land copy() {
             Land l = new Land();
@@ -52,6 +57,7 @@ public final class Model {
             l.hours = hours;
             l.seal = seal;
             l.lines = lines;
+            l.ways = ways;
             l.roads.addAll(roads);
             l.floods.addAll(floods);
             l.riders.addAll(riders);
@@ -83,6 +89,10 @@ public final class Model {
         // ---- ways: all simple rows are tried ----
 
         List<Integer> quickest(int from, int to) {
+            return ways.computeIfAbsent(10 * from + to, k -> Optional.ofNullable(seekQuickest(from, to))).orElse(null);
+        }
+
+        private List<Integer> seekQuickest(int from, int to) {
             List<List<Integer>> all = new ArrayList<>();
             List<Integer> row = new ArrayList<>();
             row.add(from);
@@ -237,7 +247,7 @@ public final class Model {
                 }
                 towns.addAll(leg.subList(1, leg.size()));
             }
-            where = new int[9000];
+            where = new int[l.hours];
             Arrays.fill(where, NONE);
             int at = 0;
             int resting = 0;
@@ -246,7 +256,7 @@ public final class Model {
                 if (riding > 0) {
                     riding--;
                     if (riding > 0) {
-                        where[t] = 10 + towns.get(at + 1);
+                        isAt(t, 10 + towns.get(at + 1));
                         continue;
                     }
                     at++;
@@ -256,18 +266,25 @@ public final class Model {
                     in.add(t);
                 }
                 if (at == towns.size() - 1) {
-                    where[t] = towns.get(at);
+                    isAt(t, towns.get(at));
                     end = t;
                 } else if (resting > 0) {
                     resting--;
-                    where[t] = towns.get(at);
+                    isAt(t, towns.get(at));
                 } else if (l.wet(towns.get(at), towns.get(at + 1), t)) {
-                    where[t] = towns.get(at);
+                    isAt(t, towns.get(at));
                 } else {
                     out.add(t);
-                    where[t] = 10 + towns.get(at + 1);
+                    isAt(t, 10 + towns.get(at + 1));
                     riding = pace * l.road(towns.get(at), towns.get(at + 1))[2];
                 }
+            }
+        }
+
+        // nobody asks where he is beyond the last HOUR
+        private void isAt(int hour, int place) {
+            if (hour < where.length) {
+                where[hour] = place;
             }
         }
     }
