@@ -53,9 +53,10 @@ public final class AgainTest {
             + "road 3 to 4 hours 2;rider pace 1 rests 0;";
         String there = "order rider 0 on 0 says 5 from 0 to 4 at ";
         String back = "order rider 0 on 0 says 5 from 4 to 0 at ";
-        SlowOrder x = Check.told(land + there + "3;" + back + "2;");
+        // the longer one went from 1 to 2 from 10 to 12
+        SlowOrder x = Check.told(land + there + "8;" + back + "7;");
         Check.due("they cross", x.meets(0, 1), 1);
-        Check.tell(x, land + there.replace("to 4", "to 1") + "9;" + back.replace("to 0", "to 3") + "8;");
+        Check.tell(x, land + there.replace("to 4", "to 1") + "9;" + back.replace("4 to 0", "2 to 1") + "11;");
         int[] where = {-1, 11, 11, 1, -1, -1, -1};
         for (int hour = 8; hour < 15; hour++) {
             Check.due("rider(0, " + hour + ")", x.rider(0, hour), where[hour - 8]);

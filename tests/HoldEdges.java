@@ -285,7 +285,8 @@ final class HoldEdges {
     // ---- promises 16 to 18 ----
 
     private static void discord() {
-        Check.promise(16, "HOURS by ROADS: each HOUR for each ROAD whose two TOWNS are not told the same");
+        Check.promise(16, "DISCORD (III)");
+        Check.term("III", "HOURS by ROADS: each HOUR for each ROAD whose two TOWNS are not told the same");
         SlowOrder x = Check.told(LAND + says(0, 0, 4, 0, 1, 0));
         Check.due("both roads from 3 on", x.discord(0), 34);
         x = Check.told(LAND + says(0, 0, 4, 0, 1, 16));
@@ -309,7 +310,8 @@ final class HoldEdges {
     }
 
     private static void nothingAlone() {
-        Check.promise(16, "nothing is like nothing alone");
+        Check.promise(16, "DISCORD (III)");
+        Check.term("III", "nothing is like nothing alone");
         SlowOrder x = Check.told(LAND + says(0, 0, 0, 0, 1, 0));
         Check.due("nothing is not like 0", x.discord(0), 34);
         Check.due("nothing is like nothing", x.discord(1), 0);

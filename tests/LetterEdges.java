@@ -375,7 +375,7 @@ final class LetterEdges {
 
     private static void seenIs(SlowOrder x, int slot, int order, int due) {
         String at = "(" + slot + ", " + order;
-        Check.promise(34, "-2: there is no such SLOT, ORDER, a number is not so, not four each; -6: it has nothing");
+        Check.promise(34, "not four each; -6: it has nothing");
         Check.due("agree" + at + ")", x.agree(slot, order), due);
         Check.promise(35, "-2, -6 likewise");
         Check.due("when" + at + ", 0)", x.when(slot, order, 0), due);

@@ -321,7 +321,7 @@ final class StateEdges {
     // ---- promise 45 ----
 
     private static void pasteWhole() {
-        Check.promise(45, "So many numbers of a SLOT's row, from one on, are put to another one's, from one on: 0");
+        Check.promise(45, "So many numbers of a SLOT's row, from one on, are put to another one's (or its own), from one on");
         for (int width = 0; width < 4; width++) {
             SlowOrder x = Check.told(LAND);
             Check.row(x, 0, width, 9, 1, 0, 2, 5, 9);
@@ -351,7 +351,7 @@ final class StateEdges {
     }
 
     private static void pasteAsTheyWere() {
-        Check.promise(45, "are put to another one's (or its own), as they were");
+        Check.promise(45, "(or its own), from one on, as they were: 0");
         SlowOrder x = Check.told(LAND);
         Check.row(x, 0, 0, 1, 0, 2, 5, 1, 0, 3, 5);
         Check.due("three on, over themselves", x.paste(0, 0, 0, 1, 7), 0);
@@ -387,7 +387,7 @@ final class StateEdges {
     }
 
     private static void pasteBeyond() {
-        Check.promise(45, "-7, and nothing happens: some are beyond their rows, or a place or n is below 0");
+        Check.promise(45, "-7, and nothing happens: some are beyond their rows");
         SlowOrder x = Check.told(LAND);
         Check.row(x, 0, 0, 1, 0, 2, 5, 1, 0, 3, 5);
         Check.row(x, 1, 0, 1, 0, 2, 5);

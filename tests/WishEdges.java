@@ -129,7 +129,7 @@ final class WishEdges {
     }
 
     private static void tenOrders() {
-        Check.promise(29, "n (0 .. 50) times that ORDER is sent");
+        Check.promise(29, "n (0 .. 50) times (in thought) that ORDER is sent");
         StringBuilder s = new StringBuilder(SMALL.replace("hours 5", "hours 99"));
         for (int o = 0; o < 10; o++) {
             s.append(says(0, o, 1, 10 + o));

@@ -194,7 +194,7 @@ final class YearEdges {
     }
 
     private static void noSuchYear() {
-        Check.promise(38, "from a seed (0 .. 2,000,000,000), odds 0 .. 100, -2: there are none such");
+        Check.promise(38, "-2: there are none such");
         SlowOrder x = Check.told(LAND + says(5, 0, 1, 0));
         int[][] bad = {{-1, 0, 0}, {LEAST, 0, 0}, {LAST_SEED + 1, 0, 0}, {MOST, 0, 0}, {0, -1, 0}, {0, 101, 0}, {0, MOST, 0},
             {0, LEAST, 0}, {0, 0, 1}, {0, 0, 9}, {0, 0, 10}, {0, 0, -1}, {0, 0, MOST}, {0, 0, LEAST}};
@@ -233,7 +233,7 @@ final class YearEdges {
     }
 
     private static void years() {
-        Check.promise(39, "Of n such YEARS (1 .. 20) from seeds, the seed and 1, .., in how many something HOLDS");
+        Check.promise(39, "Of n such YEARS (1 .. 20) from seeds, the seed and 1, .., in how many something");
         SlowOrder x = Check.told(LAND + says(5, 0, 2, 20) + says(6, 0, 2, 2));
         int[] numbers = {1, 2, 19, 20};
         int[] hours = {0, 6, 7, 9, 25, 30, 39};

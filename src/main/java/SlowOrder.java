@@ -806,7 +806,10 @@ public final class SlowOrder {
             int at = place;
             value = 0;
             while (at < size && text[at] >= '0' && text[at] <= '9') {
-                value = Math.min(TOO_MUCH, 10 * value + text[at] - '0');
+                value = 10 * value + text[at] - '0';
+                if (value > TOO_MUCH) {
+                    value = TOO_MUCH;
+                }
                 at++;
             }
             kind = NUMBER;
